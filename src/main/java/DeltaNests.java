@@ -10,6 +10,7 @@ public final class DeltaNests {
     private static final int FIELDS = 3;
     private static final int VALUES = 100;
     private static final int NUMBERS = 63;
+    private static final int DOTS_EACH = NUMBERS + 1;
     private static final int TAPE = 300;
     private static final int TEXTS = 4;
     private static final int CLAUSES = 24;
@@ -274,9 +275,9 @@ public final class DeltaNests {
         }
         switch (what) {
             case 0:
-                return dot / (NUMBERS + 1);
+                return dot / DOTS_EACH;
             case 1:
-                return dot % (NUMBERS + 1);
+                return dot % DOTS_EACH;
             case 2:
                 return now.nests.keyOf(dot);
             case 3:
@@ -307,7 +308,7 @@ public final class DeltaNests {
         if (dot == NONE || what < 0 || what > 1) {
             return OTHER;
         }
-        return what == 0 ? dot / (NUMBERS + 1) : dot % (NUMBERS + 1);
+        return what == 0 ? dot / DOTS_EACH : dot % DOTS_EACH;
     }
 
     public boolean knows(int replica, int of, int number) {
@@ -702,12 +703,12 @@ public final class DeltaNests {
     /**
      * STATES, a row each: for each REPLICA the bits of the DOTS that the row KNOWS, and of those of its ENTRIES.
      * What an ENTRY holds is kept once by its DOT, since one DOT never has two ENTRIES.
-     * A DOT in one int is REPLICA * 64 + number; NONE as a KEY or FIELD means any.
+     * A DOT in one int is REPLICA * DOTS_EACH + number; NONE as a KEY or FIELD means any.
      */
     private static final class Nests {
         final long[] known = new long[ROWS * REPLICAS];
         final long[] alive = new long[ROWS * REPLICAS];
-        final int[] contents = new int[REPLICAS * (NUMBERS + 1)];
+        final int[] contents = new int[REPLICAS * DOTS_EACH];
 
         void copy(Nests other) {
             System.arraycopy(other.known, 0, known, 0, known.length);
@@ -782,8 +783,8 @@ public final class DeltaNests {
         }
 
         private boolean hasEntry(int row, int dot, int key, int field) {
-            int replica = dot / (NUMBERS + 1);
-            int number = dot % (NUMBERS + 1);
+            int replica = dot / DOTS_EACH;
+            int number = dot % DOTS_EACH;
             return number > 0 && (alive[row * REPLICAS + replica] >> (number - 1) & 1) != 0
                 && (key == NONE || keyOf(dot) == key) && (field == NONE || fieldOf(dot) == field);
         }
@@ -826,7 +827,7 @@ public final class DeltaNests {
         int latest(int row, int key, int field) {
             for (int number = NUMBERS; number > 0; number--) {
                 for (int replica = REPLICAS - 1; replica >= 0; replica--) {
-                    int dot = replica * (NUMBERS + 1) + number;
+                    int dot = replica * DOTS_EACH + number;
                     if (hasEntry(row, dot, key, field)) {
                         return valueOf(dot);
                     }
@@ -859,8 +860,8 @@ public final class DeltaNests {
             int digest = 0;
             for (int dot = 0; dot < contents.length; dot++) {
                 if (hasEntry(row, dot, NONE, NONE)) {
-                    int replica = dot / (NUMBERS + 1);
-                    int number = dot % (NUMBERS + 1);
+                    int replica = dot / DOTS_EACH;
+                    int number = dot % DOTS_EACH;
                     int entry = 101 * replica + 7 * number + 5 * keyOf(dot) + 3 * fieldOf(dot) + valueOf(dot);
                     digest = (31 * digest + entry) % 9973;
                 }
@@ -873,7 +874,7 @@ public final class DeltaNests {
             wipe(row);
             for (int dot = 0; dot < contents.length; dot++) {
                 if (hasEntry(from, dot, key, field)) {
-                    known[row * REPLICAS + dot / (NUMBERS + 1)] |= 1L << (dot % (NUMBERS + 1) - 1);
+                    known[row * REPLICAS + dot / DOTS_EACH] |= 1L << (dot % DOTS_EACH - 1);
                 }
             }
         }
@@ -882,7 +883,7 @@ public final class DeltaNests {
             long bit = 1L << (number - 1);
             known[row * REPLICAS + replica] |= bit;
             alive[row * REPLICAS + replica] |= bit;
-            contents[replica * (NUMBERS + 1) + number] = content;
+            contents[replica * DOTS_EACH + number] = content;
         }
 
         int differing(int a, int b) {
@@ -910,7 +911,7 @@ public final class DeltaNests {
                 for (int number = vector(row, replica) + 1; number <= NUMBERS; number++) {
                     if (isKnown(row, replica, number)) {
                         if (many == n) {
-                            return replica * (NUMBERS + 1) + number;
+                            return replica * DOTS_EACH + number;
                         }
                         many++;
                     }
@@ -1307,7 +1308,6 @@ public final class DeltaNests {
             }
             return true;
         }
-
     }
 
     /** A TEXT that was read; its laws are code for a stack, so that long SUMS need no deep calls. */

@@ -120,6 +120,8 @@ public final class PromisesTest {
         x.set(2, 1, 1, 2);
         x.set(2, 1, 0, 2);
         x.set(1, 1, 0, 2);
+        x.set(0, 1, 0, 2);
+        x.set(0, 1, 0, 2);
         x.day(12);
         due(sum, worth(x, sum, 2, 3, 7), want);
     }
@@ -257,7 +259,8 @@ public final class PromisesTest {
         worthIs("known 2", 3);
         worthIs("has 1 * 10 + known 1", 11);
         worthIs("has 4 + known 4 + has - 1 + known - 1", 0);
-        worthIs("has 3 + known 0", 0);
+        worthIs("has 3 + known 3", 0);
+        worthIs("has 0 * 10 + known 0", 12);
         worthIs("has (1 + 1)", 2);
         worthIs("if 1 < 2 then 5 else 6 end", 5);
         worthIs("if 2 < 2 then 5 else 6 end", 6);
@@ -299,6 +302,15 @@ public final class PromisesTest {
         faulty("1", 1, 0);
         faulty("Day 1;", 1, 0);
         faulty("days 1;", 1, 0);
+        faulty("dayz 1;", 1, 0);
+        faulty("dayZ 1;", 1, 0);
+        faulty("dayA 1;", 1, 0);
+        faulty("daya 1;", 1, 0);
+        faulty("da 1;", 1, 0);
+        faulty("day_ 1;", 1, 3);
+        faulty("day [;", 1, 4);
+        faulty("day 1:", 1, 5);
+        faulty("day 1/", 1, 5);
         faulty("day\t1;", 1, 3);
         faulty("day 0;", 2, 4);
         faulty("day 123456789012345678901234567890;", 2, 4);
@@ -308,6 +320,10 @@ public final class PromisesTest {
         faulty("set 0 of 0 at 0 at 0;", 1, 16);
         faulty("set 0 of 0 at 0 to 100;", 2, 19);
         faulty("set 0 of 0 at 0;", 1, 15);
+        faulty("set 0 of 4 at 0 to 0;", 2, 9);
+        faulty("set 0 of 0 at 4 to 0;", 2, 14);
+        faulty("reset 4 at 0;", 2, 6);
+        faulty("reset 0 at 4;", 2, 11);
         faulty("clear 3 of 0 at 0;", 2, 6);
         faulty("clear 0 of 4 at 0;", 2, 11);
         faulty("clear 0 of 0 at 4;", 2, 16);
@@ -319,6 +335,20 @@ public final class PromisesTest {
         faulty("loses 1 2;", 1, 8);
         faulty("loses 10000;", 2, 6);
         faulty("loses 1 + ;", 1, 10);
+        faulty("loses 1 + 10000;", 2, 10);
+        faulty("loses 1 * 10000;", 2, 10);
+        faulty("loses (10000);", 2, 7);
+        faulty("loses has 10000;", 2, 10);
+        faulty("loses -10000;", 2, 7);
+        faulty("loses if 10000 = 1 then 1 else 1 end;", 2, 9);
+        faulty("loses if 1 = 10000 then 1 else 1 end;", 2, 13);
+        faulty("loses if not 10000 = 1 then 1 else 1 end;", 2, 13);
+        faulty("loses if 1 = 1 or 10000 = 1 then 1 else 1 end;", 2, 18);
+        faulty("loses if 1 = 1 and 10000 = 1 then 1 else 1 end;", 2, 19);
+        faulty("loses if 1 = 1 then 10000 else 1 end;", 2, 20);
+        faulty("loses if 1 = 1 then 1 else 10000 end;", 2, 27);
+        faulty("loses if 1 = 1 else 1 end;", 1, 15);
+        faulty("loses if 1 = 1 then 1 else 1 else 1 end;", 1, 29);
         faulty("loses (1;", 1, 8);
         faulty("loses 1);", 1, 7);
         faulty("loses not 1 = 1;", 1, 6);
@@ -378,6 +408,66 @@ public final class PromisesTest {
             lost += drawn < 3 ? 1 : 0;
             due("below 3 without", x.is(3), lost);
         }
+        DeltaNests y = under("speaks 0;");
+        y.set(0, 0, 0, 0);
+        lost = 0;
+        for (int i = 0; i < 20; i++) {
+            int drawn = y.is(1) % 10;
+            y.send(0, 1);
+            lost += drawn < 3 ? 1 : 0;
+            due("below 3 without loses", y.is(3), lost);
+        }
+        lawsOfLoss();
+    }
+
+    /** What a law of losses lets by: 10 draws of a message, from and to, of so many entries. */
+    private static void losing(String law, int from, int to, int bulk, boolean loses) {
+        DeltaNests x = under("loses if " + law + " then 10 else 0 end;");
+        for (int i = 0; i < bulk; i++) {
+            x.set(from, i, 0, 0);
+        }
+        x.day(3);
+        for (int i = 1; i <= 10; i++) {
+            x.send(from, to);
+            due("lost by " + law, x.is(3), loses ? i : 0);
+        }
+    }
+
+    private static void lawsOfLoss() {
+        losing("clock = 3", 1, 2, 1, true);
+        losing("clock = 2", 1, 2, 1, false);
+        losing("sender = 1 and other = 2", 1, 2, 1, true);
+        losing("sender = 2 or other = 1", 1, 2, 1, false);
+        losing("bulk = 3 and answer = 0", 1, 2, 3, true);
+        losing("bulk # 3 or answer # 0", 1, 2, 3, false);
+        losing("has sender = 2 and has other = 0 and known 1 = 2", 1, 2, 2, true);
+        // Of an answer: who sends it is whom the message came to, and has what came already.
+        DeltaNests x = under("loses if answer = 1 and sender = 2 and other = 1 and bulk = 0 and has 2 = 1 and clock = 2 then 10 else 0 end;");
+        x.set(1, 0, 0, 0);
+        x.send(1, 2);
+        x.day(2);
+        due("the answer is lost", x.is(3), 1);
+        int[] bars = {0, 3, 7, 10};
+        for (int bar : bars) {
+            DeltaNests y = under("loses " + bar + ";");
+            y.set(1, 0, 0, 0);
+            int lost = 0;
+            for (int i = 0; i < 20; i++) {
+                lost += y.is(1) % 10 < bar ? 1 : 0;
+                y.send(1, 2);
+                due("below " + bar, y.is(3), lost);
+            }
+        }
+        due("0 at least", under("loses - 5;").fault(0), 0);
+        losing("1 = 1", 0, 3, 1, true);
+        DeltaNests z = under("loses 0 - 5;");
+        z.set(0, 0, 0, 0);
+        z.send(0, 1);
+        due("0 at least", z.is(3), 0);
+        z = under("loses 5000;");
+        z.set(0, 0, 0, 0);
+        z.send(0, 1);
+        due("10 at most", z.is(3), 1);
     }
 
     static void p7() {
@@ -615,6 +705,9 @@ public final class PromisesTest {
         for (int seed : new int[] {0, 1, 77, 1234, 9999}) {
             byHand(seed, 24);
         }
+        DeltaNests y = lossless();
+        pass(y, 9999);
+        due("no tick beyond 9999", y.years(1234, 24), 9999);
         due("years", x.years(0, 1), 0);
         due("x mod 8 is 5, nothing to send", x.is(1), 20430);
         due("a step all the same", x.about(2), 1);
@@ -701,10 +794,57 @@ public final class PromisesTest {
         }
         due("none", x.undo(), NONE);
         due("clock", x.is(0), 6);
+        undoEach();
         x.set(0, 2, 2, 2);
         x.years(3, 24);
         due("years are one", x.undo(), 1);
         due("as ahead of them", x.digest(0), 7 + 10 + 6 + 2);
+    }
+
+    /** Each kind of step, twice over, so that what is taken back is not that of an elder step. */
+    private static void undoEach() {
+        DeltaNests x = lossless();
+        read(x, "day 1;");
+        for (int round = 1; round <= 2; round++) {
+            for (int kind = 0; kind < 7; kind++) {
+                x.set(0, 0, 1, round);
+                x.set(0, 1, 0, kind);
+                String before = told(x);
+                int steps = x.about(2);
+                switch (kind) {
+                    case 0: x.set(0, 2, 0, 9); break;
+                    case 1: x.clear(0, 1, 0); break;
+                    case 2: x.reset(0, 1); break;
+                    case 3: x.send(0, 1); break;
+                    case 4: x.day(1); break;
+                    case 5: x.years(round, 24); break;
+                    default: x.played(1); break;
+                }
+                due("something was done by " + kind, told(x).equals(before), false);
+                due("taken back", x.undo(), Math.min(steps, 29));
+                due("all is as ahead of it", told(x).equals(before), true);
+            }
+            x.day(10);
+        }
+    }
+
+    private static String told(DeltaNests x) {
+        StringBuilder all = new StringBuilder();
+        for (int r = 0; r < 4; r++) {
+            all.append(x.digest(r)).append(' ');
+            for (int what = 0; what < 4; what++) {
+                all.append(x.of(r, what)).append(' ').append(x.acked(r, what)).append(' ').append(x.is(what)).append(' ');
+            }
+            for (int i = 0; i < 6; i++) {
+                all.append(x.delta(r, i, 0)).append(' ').append(x.delta(r, i, 1)).append(' ').append(x.delta(r, i, 2)).append(' ');
+            }
+        }
+        for (int i = 0; i < 25; i++) {
+            for (int what = 0; what < 7; what++) {
+                all.append(x.book(i, what)).append(' ').append(x.flight(i, what)).append(' ');
+            }
+        }
+        return all.toString();
     }
 
     static void p16() {
@@ -746,6 +886,14 @@ public final class PromisesTest {
             due("others", x.entry(0, i, 5), -2);
             due("others", x.entry(0, i, -1), -2);
         }
+        for (int n = 2; n <= 62; n++) {
+            x.set(3, 1, 2, n);
+        }
+        x.set(3, 2, 2, 7);
+        due("a high dot's replica", x.entry(3, 1, 0), 3);
+        due("a high dot's number", x.entry(3, 1, 1), 63);
+        due("its value", x.entry(3, 1, 4), 7);
+        due("the other's number", x.entry(3, 0, 1), 62);
         due("beyond", x.entry(0, 3, 0), -2);
         due("below", x.entry(0, -2, 0), -2);
         due("others", x.entry(4, NONE, 0), -2);
@@ -804,6 +952,16 @@ public final class PromisesTest {
         due("others", x.cloud(0, 1, 0, 2), -2);
         due("others", x.cloud(0, 1, 0, -1), -2);
         due("to who has nothing: none", x.cloud(0, 3, NONE, 0), 0);
+        DeltaNests y = lossless();
+        for (int n = 1; n <= 62; n++) {
+            y.set(3, 1, 2, n);
+        }
+        sync(y, 3, 2);
+        y.set(3, 0, 0, 0);
+        due("one", y.cloud(3, 2, NONE, 0), 1);
+        due("replica", y.cloud(3, 2, 0, 0), 3);
+        due("number", y.cloud(3, 2, 0, 1), 63);
+        due("what comes has a cloud, the state that has the rest none", y.cloud(3, 1, NONE, 0), 0);
         int[][] bad = {{0, 0}, {-1, 0}, {4, 0}, {0, -1}, {0, 4}};
         for (int[] b : bad) {
             due("others", x.cloud(b[0], b[1], NONE, 0), -2);
@@ -886,6 +1044,15 @@ public final class PromisesTest {
         x.day(2);
         due("all have acked seven", x.of(1, 1), 7);
         due("one is kept", x.delta(1, NONE, 0), 1);
+        for (int last = 0; last < 3; last++) {
+            DeltaNests y = lossless();
+            y.set(3, 0, 0, 0);
+            sync(y, 3, (last + 1) % 3);
+            sync(y, 3, (last + 2) % 3);
+            due("not yet all", y.of(3, 1), 0);
+            sync(y, 3, last);
+            due("all", y.of(3, 1), 1);
+        }
     }
 
     static void p23() {
@@ -993,7 +1160,9 @@ public final class PromisesTest {
         }
         due("25 at most", x.book(NONE, 0), 25);
         due("the eldest is the fourth", x.book(0, 1), 2);
-        due("the latest", x.book(24, 3), 1);
+        for (int i = 3; i < 25; i++) {
+            due("the others", x.book(i, 3), (i - 3) % 4);
+        }
         due("beyond", x.book(25, 0), -2);
         // An answer that is lost, behind what came.
         DeltaNests y = under("loses answer * 10;");
@@ -1066,6 +1235,9 @@ public final class PromisesTest {
         x.set(0, 0, 0, 1);
         due("entries", x.would(0, 1, 0), 2);
         due("dots", x.would(0, 1, 1), 3);
+        x.set(2, 3, 0, 1);
+        due("another's entries", x.would(2, 1, 0), 1);
+        due("another's dots", x.would(2, 1, 1), 1);
         due("others", x.would(0, 1, 2), NONE);
         due("others", x.would(0, 1, -1), NONE);
         sync(x, 0, 1);
