@@ -1,129 +1,21 @@
 import java.lang.reflect.Method;
 
 /** One method for each promise of the document: ordinary inputs, its edges, wrong inputs. */
-public final class PromisesTest {
-    private static final int NONE = DeltaNests.NONE;
-    private static final int MIN = Integer.MIN_VALUE;
-    private static final int MAX = Integer.MAX_VALUE;
-    private static int wrong = 0;
-    private static int checks = 0;
-    private static String promise = "";
-
+public final class PromisesTest extends Checks {
     public static void main(String[] args) throws Exception {
         for (int n = 1; n <= 53; n++) {
-            promise = "promise " + n;
+            at = "promise " + n;
             Method method = PromisesTest.class.getDeclaredMethod("p" + n);
             int before = checks;
             method.invoke(null);
             due("has checks", checks > before, true);
         }
-        promise = "constants";
+        at = "constants";
         due("NONE", DeltaNests.NONE, -1);
         System.out.println(wrong == 0 ? "promises: all " + checks + " checks hold" : "promises: " + wrong + " checks fail");
         if (wrong != 0) {
             System.exit(1);
         }
-    }
-
-    private static void due(String what, long got, long want) {
-        checks++;
-        if (got != want) {
-            wrong++;
-            System.out.println(promise + ": " + what + " answered " + got + ", due is " + want);
-        }
-    }
-
-    private static void due(String what, boolean got, boolean want) {
-        due(what, got ? 1 : 0, want ? 1 : 0);
-    }
-
-    private static void tape(DeltaNests x, String text) {
-        x.end(0);
-        for (int i = 0; i < text.length(); i += 20) {
-            int[] w = new int[5];
-            for (int j = 0; j < 20; j++) {
-                int c = i + j < text.length() ? text.charAt(i + j) & 255 : 0;
-                w[j / 4] = w[j / 4] << 8 | c;
-            }
-            x.feed(w[0], w[1], w[2], w[3], w[4]);
-        }
-        due("end of the tape", x.end(text.length()), text.length());
-    }
-
-    private static int read(DeltaNests x, String text) {
-        tape(x, text);
-        return x.text();
-    }
-
-    private static void faulty(String text, int fault, int place) {
-        DeltaNests x = new DeltaNests();
-        due("text " + text, read(x, text), NONE);
-        due("fault of " + text, x.fault(0), fault);
-        due("place in " + text, x.fault(1), place);
-    }
-
-    private static void faultless(String text) {
-        DeltaNests x = new DeltaNests();
-        due("text " + text, read(x, text), 0);
-        due("fault of " + text, x.fault(0), 0);
-        due("place in " + text, x.fault(1), NONE);
-    }
-
-    /** A new object under a text. */
-    private static DeltaNests under(String text) {
-        DeltaNests x = new DeltaNests();
-        due("text " + text, read(x, text), 0);
-        due("by(0)", x.by(0), true);
-        return x;
-    }
-
-    private static DeltaNests lossless() {
-        return under("loses 0;");
-    }
-
-    /** Replica a's STATE comes to b and is acked. */
-    private static void sync(DeltaNests x, int a, int b) {
-        x.send(a, b);
-        x.day(2);
-        x.day(2);
-    }
-
-    /** The sum as a law, by what is asked of speaks: whether it is above the number. */
-    private static int worth(DeltaNests x, String sum, int from, int to, int behind) {
-        int lo = -1000000;
-        int hi = 1000000;
-        while (lo < hi) {
-            int mid = Math.floorDiv(lo + hi + 1, 2);
-            x.image();
-            String bar = mid < 0 ? "- (0 - " + part(-mid) + ")" : "- " + part(mid);
-            due("text of a sum", read(x, "speaks (" + sum + ") + 1 " + bar + ";") >= 0, true);
-            x.said(NONE, 0, 0, 0);
-            x.said(from, to, behind, 1);
-            boolean atLeast = (x.whose() >> x.about(0) - 1 & 1) == 1;
-            x.back();
-            if (atLeast) {
-                lo = mid;
-            } else {
-                hi = mid - 1;
-            }
-        }
-        return lo;
-    }
-
-    private static String part(int n) {
-        return "(" + n / 1000 + " * 1000 + " + n % 1000 + ")";
-    }
-
-    private static void worthIs(String sum, int want) {
-        DeltaNests x = new DeltaNests();
-        x.set(2, 1, 1, 1);
-        x.set(2, 1, 1, 2);
-        x.set(2, 1, 0, 2);
-        x.set(1, 1, 0, 2);
-        x.set(0, 1, 0, 2);
-        x.set(0, 1, 0, 2);
-        x.day(12);
-        due(sum, worth(x, sum, 2, 3, 7), want);
     }
 
     static void p1() {
@@ -646,22 +538,6 @@ public final class PromisesTest {
         due("clock", x.is(0), 9999);
     }
 
-    /** Ticks by a text of 24 times 12, then by hand. */
-    private static void pass(DeltaNests x, int ticks) {
-        StringBuilder days = new StringBuilder();
-        for (int i = 0; i < 24; i++) {
-            days.append("day 12;");
-        }
-        int text = read(x, days.toString());
-        while (x.is(0) + 288 <= ticks) {
-            due("played", x.played(text), NONE);
-        }
-        while (x.is(0) < ticks) {
-            x.day(Math.min(12, ticks - x.is(0)));
-        }
-        due("clock", x.is(0), ticks);
-    }
-
     static void p13() {
         DeltaNests x = new DeltaNests();
         due("none such", x.played(0), -2);
@@ -730,34 +606,6 @@ public final class PromisesTest {
         due("in flight", x.flight(NONE, 0), y.flight(NONE, 0));
     }
 
-    private static int tellYears(DeltaNests y, int seed, int n) {
-        int drawn = seed * 2 + 509;
-        for (int i = 0; i < n; i++) {
-            int x = drawn;
-            drawn = (drawn * 773 + 641) % 31139;
-            int sent = y.is(2);
-            int r = x / 8 % 4;
-            switch (x % 8) {
-                case 0: case 1: case 2:
-                    y.set(r, x / 32 % 4, x % 3, x % 100);
-                    break;
-                case 3:
-                    y.reset(r, x / 32 % 4);
-                    break;
-                case 4: case 5:
-                    y.send(r, (r + 1 + x / 32 % 3) % 4);
-                    break;
-                default:
-                    y.day(1);
-                    break;
-            }
-            for (int s = y.is(2); s > sent; s--) {
-                drawn = (drawn * 773 + 641) % 31139;
-            }
-        }
-        return y.is(0);
-    }
-
     static void p15() {
         DeltaNests x = new DeltaNests();
         due("none", x.undo(), NONE);
@@ -803,13 +651,14 @@ public final class PromisesTest {
 
     /** Each kind of step, twice over, so that what is taken back is not that of an elder step. */
     private static void undoEach() {
-        DeltaNests x = lossless();
-        read(x, "day 1;");
-        for (int round = 1; round <= 2; round++) {
-            for (int kind = 0; kind < 7; kind++) {
+        for (int kind = 0; kind < 7; kind++) {
+            DeltaNests x = lossless();
+            read(x, "day 1;");
+            for (int round = 1; round <= 2; round++) {
                 x.set(0, 0, 1, round);
                 x.set(0, 1, 0, kind);
-                String before = told(x);
+                String before = world(x);
+                String inBrief = brief(x);
                 int steps = x.about(2);
                 switch (kind) {
                     case 0: x.set(0, 2, 0, 9); break;
@@ -820,31 +669,12 @@ public final class PromisesTest {
                     case 5: x.years(round, 24); break;
                     default: x.played(1); break;
                 }
-                due("something was done by " + kind, told(x).equals(before), false);
+                due("something was done by " + kind, brief(x).equals(inBrief), false);
                 due("taken back", x.undo(), Math.min(steps, 29));
-                due("all is as ahead of it", told(x).equals(before), true);
-            }
-            x.day(10);
-        }
-    }
-
-    private static String told(DeltaNests x) {
-        StringBuilder all = new StringBuilder();
-        for (int r = 0; r < 4; r++) {
-            all.append(x.digest(r)).append(' ');
-            for (int what = 0; what < 4; what++) {
-                all.append(x.of(r, what)).append(' ').append(x.acked(r, what)).append(' ').append(x.is(what)).append(' ');
-            }
-            for (int i = 0; i < 6; i++) {
-                all.append(x.delta(r, i, 0)).append(' ').append(x.delta(r, i, 1)).append(' ').append(x.delta(r, i, 2)).append(' ');
+                due("all is as ahead of it", world(x).equals(before), true);
+                x.day(10);
             }
         }
-        for (int i = 0; i < 25; i++) {
-            for (int what = 0; what < 7; what++) {
-                all.append(x.book(i, what)).append(' ').append(x.flight(i, what)).append(' ');
-            }
-        }
-        return all.toString();
     }
 
     static void p16() {
