@@ -89,6 +89,26 @@ public final class EdgesTest extends Checks {
         due("300", x.end(300), 300);
         due("0", x.end(0), 0);
         due("empty", x.about(4), 0);
+        // What is cut off is not read, nor what was there before.
+        DeltaNests y = new DeltaNests();
+        String text = "day 12;day 5;";
+        for (int n = 1; n <= 6; n++) {
+            tape(y, text);
+            y.end(n);
+            due("cut", y.text(), NONE);
+            due("place", y.fault(1), n < 3 ? 0 : n);
+        }
+        tape(y, text);
+        y.end(7);
+        due("a whole clause", y.text(), 0);
+        y.played(0);
+        due("twelve alone", y.is(0), 12);
+        tape(y, text);
+        y.end(5);
+        y.feed(0x3b202020, 0x20202020, 0x20202020, 0x20202020, 0x20202020);
+        due("other bytes behind", y.text(), 1);
+        y.played(1);
+        due("one more", y.is(0), 13);
     }
 
     @Says(in = "Promise 4", that = "The tape (empty then) is a TEXT: its number. NONE: it has a FAULT; or (the tape stays) there are 4.")

@@ -80,7 +80,7 @@ public final class ModelRuns {
             if (!begin()) {
                 wrong++;
             }
-            for (int i = calls.size(); i < 460;) {
+            for (int i = calls.size(); i < 450;) {
                 int before = calls.size();
                 boolean good = i % 3 == 0 || draw.nextInt(3) == 0 ? act() : ask();
                 i += calls.size() - before;

@@ -398,6 +398,31 @@ public final class TermsTest extends Checks {
         due("the seventh drops one", x.of(0, 1), 4);
     }
 
+    @Says(in = T, that = "all that every other REPLICA has ACKED are dropped.")
+    static void droppedByTheLast() {
+        for (int from = 0; from < 4; from++) {
+            for (int last = 0; last < 4; last++) {
+                DeltaNests x = lossless();
+                x.set(from, 0, 0, 0);
+                x.set(from, 0, 1, 0);
+                for (int to = 0; to < 4; to++) {
+                    if (to != from && to != last) {
+                        sync(x, from, to);
+                        due("not yet all", x.of(from, 1), last == from && to == (from == 3 ? 2 : 3) ? 2 : 0);
+                    }
+                }
+                if (last != from) {
+                    x.send(from, last);
+                    x.day(3);
+                    due("not yet the last", x.of(from, 1), 0);
+                    x.day(1);
+                }
+                due("all", x.of(from, 1), 2);
+                due("none is kept", x.delta(from, NONE, 0), 0);
+            }
+        }
+    }
+
     @Says(in = T, that = "SENT, one to another: is what that one ACKED less than how many DELTAS there were:")
     static void sentBeyondAcked() {
         DeltaNests x = lossless();
@@ -675,6 +700,35 @@ public final class TermsTest extends Checks {
         due("the first stays", x.values(0, 0, 0, 0), 1);
         due("a new one", x.set(0, 0, 0, 7), 2);
         due("can be taken back", x.undo(), 0);
+    }
+
+    @Says(in = T, that = "the latest 30 can be taken back, the latest first")
+    static void refusedAreNoSteps() {
+        for (int many = 29; many <= 31; many++) {
+            DeltaNests x = lossless();
+            for (int n = 1; n <= many; n++) {
+                x.set(0, 0, 0, n);
+            }
+            refused(x, "clear", NONE, new int[] {0, 1, 1}, new int[] {1, 0, 0});
+            refused(x, "reset", NONE, new int[] {0, 1}, new int[] {1, 0});
+            refused(x, "send", NONE, new int[] {1, 0}, new int[] {0, 0});
+            for (int n = many; n > Math.max(0, many - 30); n--) {
+                due("the latest first", x.values(0, 0, 0, 0), n);
+                due("taken back", x.undo(), n - 1 - Math.max(0, many - 30));
+            }
+            due("as ahead of the eldest kept", x.values(0, 0, 0, NONE), many - 30 > 0 ? 1 : 0);
+        }
+        DeltaNests x = new DeltaNests();
+        for (int n = 1; n <= 63; n++) {
+            x.set(3, 0, 0, n);
+        }
+        refused(x, "set", NONE, new int[] {3, 0, 0, 0}, new int[] {4, 0, 0, 0});
+        for (int n = 63; n > 33; n--) {
+            due("the latest first", x.values(3, 0, 0, 0), n);
+            due("taken back", x.undo(), n - 34);
+        }
+        due("as ahead of the eldest kept", x.values(3, 0, 0, 0), 33);
+        due("no more", x.undo(), NONE);
     }
 
     @Says(in = T, that = "the latest 30 can be taken back, the latest first")
@@ -999,6 +1053,30 @@ public final class TermsTest extends Checks {
         worthIs("if - 9999 * 9999 < - 1000 * 1000 then 1 else 0 end", 0);
     }
 
+    @Says(in = T, that = "ASK: not ASK, or SUM one of < <= > >= = # (unlike) SUM.")
+    static void relations() {
+        String[] signs = {"<", "<=", ">", ">=", "=", "#"};
+        for (int a = 4; a <= 6; a++) {
+            boolean[] holds = {a < 5, a <= 5, a > 5, a >= 5, a == 5, a != 5};
+            StringBuilder all = new StringBuilder("loses if 1=1");
+            StringBuilder none = new StringBuilder("loses if 1=2");
+            for (int i = 0; i < 6; i++) {
+                all.append(" and ").append(holds[i] ? "" : "not ").append(a).append(signs[i]).append("5");
+                none.append(" or ").append(holds[i] ? "not " : "").append(a).append(signs[i]).append("5");
+                worthIs("if " + a + " " + signs[i] + " 5 then 1 else 0 end", holds[i] ? 1 : 0);
+                worthIs("if not " + a + " " + signs[i] + " 5 then 1 else 0 end", holds[i] ? 0 : 1);
+            }
+            DeltaNests x = under(all + " then 10 else 0 end;");
+            x.set(0, 0, 0, 0);
+            x.send(0, 1);
+            due("all of them hold", x.is(3), 1);
+            DeltaNests y = under(none + " then 10 else 0 end;");
+            y.set(0, 0, 0, 0);
+            y.send(0, 1);
+            due("none of them fails", y.is(3), 0);
+        }
+    }
+
     @Says(in = T, that = "or and and look at both sides always, of if just the SUM that is chosen is asked.")
     static void bothSides() {
         String[] ask = {"1 = 2", "1 = 1"};
@@ -1023,6 +1101,11 @@ public final class TermsTest extends Checks {
         faulty("day 0;day x;", 2, 4);
         faulty("day x;day 0;", 1, 4);
         faulty("  loses   behind ; loses 1;", 5, 10);
+        faulty("loses if 1=2 or behind=1 then 1 else behind end;", 5, 16);
+        faulty("loses if 1=2 and behind=1 then 1 else behind end;", 5, 17);
+        faulty("loses if 1=2 or 1 then 1 else 1 end;", 1, 18);
+        faulty("loses if 1=2 and 1 then 1 else 1 end;", 1, 19);
+        faulty("loses if not 1 then 1 else 1 end;", 1, 15);
         String[] whole = {"set", " 1", " of", " 2", " at", " 3", " to", " 9", " ;"};
         StringBuilder part = new StringBuilder();
         for (String token : whole) {
@@ -1385,6 +1468,30 @@ public final class TermsTest extends Checks {
     @Says(in = T, that = "QUIET: nothing is IN FLIGHT and nobody has anything to send.")
     static void quietOnes() {
         due("a new object", new DeltaNests().quiet(), true);
+        // All is acked, but what was sent first comes last.
+        DeltaNests x = lossless();
+        x.set(0, 0, 0, 0);
+        x.delay(9);
+        x.send(0, 3);
+        x.delay(1);
+        for (int i = 0; i < 16; i++) {
+            x.send(i / 4, i % 4);
+        }
+        x.day(2);
+        for (int i = 0; i < 16; i++) {
+            x.send(i / 4, i % 4);
+        }
+        x.day(2);
+        due("one is in flight", x.flight(NONE, 0), 1);
+        for (int i = 0; i < 16; i++) {
+            due("nobody has anything to send", x.send(i / 4, i % 4), NONE);
+        }
+        due("not yet quiet", x.quiet(), false);
+        x.day(5);
+        due("its answer is in flight", x.flight(0, 3), 1);
+        due("not yet quiet", x.quiet(), false);
+        x.day(1);
+        due("quiet", x.quiet(), true);
         DeltaNests y = lossless();
         y.set(3, 0, 0, 0);
         y.send(3, 0);
@@ -1634,5 +1741,94 @@ public final class TermsTest extends Checks {
         due("steps", x.about(2), 2);
         due("taken back", x.undo(), 1);
         due("taken back", x.undo(), 0);
+    }
+
+    @Says(in = T, that = "AN IMAGE: all as it is, but the tape and the latest FAULT. BACK: all is so again.")
+    static void imageOfSteps() {
+        // More than 30 steps ahead of the image, and more than 30 others behind it.
+        DeltaNests x = new DeltaNests();
+        for (int i = 0; i < 45; i++) {
+            x.set(i % 4, 0, 0, i);
+        }
+        x.image();
+        x.day(12);
+        x.day(12);
+        x.day(12);
+        x.undo();
+        for (int round = 0; round < 2; round++) {
+            x.back();
+            for (int i = 44; i > 14; i--) {
+                due("the value", x.values(i % 4, 0, 0, 0), i);
+                due("taken back", x.undo(), i - 15);
+                due("the one ahead of it", x.values(i % 4, 0, 0, 0), i - 4);
+            }
+            due("no more", x.undo(), NONE);
+            x.day(12);
+        }
+    }
+
+    @Says(in = T, that = "AN IMAGE: all as it is, but the tape and the latest FAULT. BACK: all is so again.")
+    static void imageOfTexts() {
+        DeltaNests x = new DeltaNests();
+        for (int text = 0; text < 3; text++) {
+            read(x, "day " + (text + 1) + ";speaks behind - " + text + ";");
+        }
+        x.said(0, 1, 1, 1);
+        x.image();
+        x.said(NONE, 0, 0, 0);
+        x.said(0, 1, 1, 0);
+        read(x, "day 4;");
+        due("others are said", x.whose(), 14);
+        x.back();
+        due("three texts", x.about(0), 3);
+        due("what was said", x.whose(), 1);
+        due("another fourth one", read(x, "day 5;"), 3);
+        x.back();
+        for (int text = 0; text < 3; text++) {
+            int clock = x.is(0);
+            due("played", x.played(text), NONE);
+            due("each as it was", x.is(0) - clock, text + 1);
+        }
+        due("no fourth", x.played(3), -2);
+        // An image without texts, then with others of their numbers.
+        DeltaNests y = new DeltaNests();
+        read(y, "day 7;");
+        y.back();
+        due("none", y.about(0), 0);
+        read(y, "day 9;");
+        y.image();
+        y.back();
+        due("played", y.played(0), NONE);
+        due("the later one", y.is(0), 9);
+    }
+
+    @Says(in = T, that = "the latest 30 can be taken back, the latest first")
+    static void eachKindTakenBack() {
+        DeltaNests x = lossless();
+        read(x, "clear 0 of 0 at 0;");
+        for (int kind = 0; kind < 7; kind++) {
+            x.set(0, 0, 0, kind);
+            x.set(0, 0, 1, kind + 1);
+            String before = brief(x);
+            int steps = x.about(2);
+            if (kind == 0) {
+                x.clear(0, 0, 0);
+            } else if (kind == 1) {
+                x.reset(0, 0);
+            } else if (kind == 2) {
+                x.send(0, 1);
+            } else if (kind == 3) {
+                x.day(1);
+            } else if (kind == 4) {
+                x.years(5, 24);
+            } else if (kind == 5) {
+                x.played(1);
+            } else {
+                x.set(0, 3, 2, 99);
+            }
+            due("one step", x.about(2), steps + 1);
+            due("taken back", x.undo(), steps);
+            due("all is as ahead of it", brief(x).equals(before), true);
+        }
     }
 }
